@@ -79,6 +79,9 @@ public final class SlipHeaps {
     private static final int JOINING = 1;
     private static final int CHANGING = 2;
 
+    private static final int MEASURING = 0;
+    private static final int LISTING = 1;
+    private static final int NEARING = 2;
     private static final int BOUNDLESS = Integer.MAX_VALUE / 2;
 
     private final Entries entries = new Entries();
@@ -351,12 +354,13 @@ public final class SlipHeaps {
 
     public int many(int entry) throws NoSuchElementException {
         needEntry(entry);
-        return solvePartOf(entry) == BIG ? BIG : search.ways;
+        int state = listPartOf(entry);
+        return state == BIG ? BIG : state < 0 ? 0 : search.ways;
     }
 
     public int first(int entry) throws NoSuchElementException {
         needEntry(entry);
-        int state = solvePartOf(entry);
+        int state = listPartOf(entry);
         return state < 0 ? state : search.heapOf(entry);
     }
 
@@ -375,10 +379,7 @@ public final class SlipHeaps {
 
     public int always(int a, int b) throws NoSuchElementException, IllegalArgumentException {
         needPair(a, b);
-        if (solvePartOf(a) < 0 || !part.has(b)) {
-            return -2;
-        }
-        return search.togetherness(a, b);
+        return listPartOf(a) < 0 ? -2 : search.togetherness(a, b);
     }
 
     public long edge(int a, int b) throws NoSuchElementException, IllegalArgumentException {
@@ -399,7 +400,7 @@ public final class SlipHeaps {
 
     public int asked(int entry) throws NoSuchElementException {
         needEntry(entry);
-        int state = solvePartOf(entry);
+        int state = listPartOf(entry);
         if (state < 0) {
             return state;
         }
@@ -409,14 +410,14 @@ public final class SlipHeaps {
     public int near(int entry, int m) throws NoSuchElementException, IllegalArgumentException {
         needEntry(entry);
         refuseUnless(isWithin(m, 0, NEAR_MOST));
-        int state = approach(entry, m);
+        int state = nearPartOf(entry, m);
         return state < 0 ? state : search.fewest;
     }
 
     public int nearest(int entry, int m) throws NoSuchElementException, IllegalArgumentException {
         needEntry(entry);
         refuseUnless(isWithin(m, 0, NEAR_MOST));
-        int state = approach(entry, m);
+        int state = nearPartOf(entry, m);
         return state < 0 ? state : search.heapOf(entry);
     }
 
@@ -503,7 +504,7 @@ public final class SlipHeaps {
         refuseUnless(a != b);
     }
 
-    /** 1: search knows the BEST of the PART; -1: it has none; -2: it is too big. */
+    /** 1: the search knows what the BEST of the PART costs; -1: there is none; -2: the PART is too big. */
     private int solvePartOf(int entry) {
         parts.find(entries.everyone());
         return solve(parts.membersWith(entry));
@@ -514,7 +515,16 @@ public final class SlipHeaps {
             return BIG;
         }
         part.load(members);
-        return search.solve() ? 1 : -1;
+        return search.measure() ? 1 : -1;
+    }
+
+    /** Likewise, and the search knows all BEST ones. */
+    private int listPartOf(int entry) {
+        int state = solvePartOf(entry);
+        if (state > 0) {
+            search.list();
+        }
+        return state;
     }
 
     /** COST of the BEST of all ENTRIES in the mask, its FIRST in the row; a PART without a BEST goes before a big one. */
@@ -535,6 +545,7 @@ public final class SlipHeaps {
                 big = true;
             } else {
                 sum += search.leastCost;
+                search.list();
                 search.copyFirst(row);
             }
         }
@@ -549,20 +560,20 @@ public final class SlipHeaps {
         }
         part.load(members);
         part.settle(a, b, true);
-        if (!search.solve()) {
+        if (!search.measure()) {
             return VOID;
         }
         long together = search.leastCost;
         part.load(members);
         part.settle(a, b, false);
-        return search.solve() ? search.leastCost - together : VOID;
+        return search.measure() ? search.leastCost - together : VOID;
     }
 
-    private int approach(int entry, int m) {
+    private int nearPartOf(int entry, int m) {
         int state = solvePartOf(entry);
         if (state > 0) {
             part.lookAt(hand.heap);
-            search.solveNear(m);
+            search.approach(m);
         }
         return state;
     }
@@ -1767,10 +1778,6 @@ public final class SlipHeaps {
             return NONE;
         }
 
-        boolean has(int entry) {
-            return placeOf(entry) != NONE;
-        }
-
         void settle(int a, int b, boolean together) {
             int i = placeOf(a);
             int j = placeOf(b);
@@ -1800,8 +1807,8 @@ public final class SlipHeaps {
     }
 
     /**
-     * All LAWFUL HEAPINGS of a PART that may still be wanted, FIRST ones first. Ends of the PART are solved ahead of
-     * the whole: what their ENTRIES cost among each other can never be saved.
+     * Goes through the LAWFUL HEAPINGS of a PART, FIRST ones first, and leaves out what can't be wanted. Ends of the PART
+     * are measured ahead of the whole: what their ENTRIES cost among each other can never be saved.
      */
     private static final class Search {
         int leastCost;
@@ -1813,11 +1820,11 @@ public final class SlipHeaps {
         private final int[] heapLeasts = new int[PART_LIMIT];
         private final int[] now = new int[PART_LIMIT];
         private final int[] chosen = new int[PART_LIMIT];
-        private final long[] list = new long[LISTED_MOST];
+        private final long[] listed = new long[LISTED_MOST];
         private int heaps;
         private int from;
         private int limit;
-        private boolean nearing;
+        private int aim;
         private long inEach;
         private long inSome;
 
@@ -1825,30 +1832,39 @@ public final class SlipHeaps {
             this.part = part;
         }
 
-        boolean solve() {
-            nearing = false;
+        /** What the BEST costs; false: there is none. */
+        boolean measure() {
+            aim = MEASURING;
             fewest = BOUNDLESS;
+            leastCost = 0;
             restCosts[part.size] = 0;
             for (int start = part.size - 1; start >= 0; start--) {
-                ways = 0;
+                leastCost = BOUNDLESS;
                 limit = BOUNDLESS;
-                heaps = 0;
                 from = start;
                 place(start, 0, 0, 0);
-                if (ways == 0) {
+                if (leastCost == BOUNDLESS) {
                     return false;
                 }
-                restCosts[start] = limit;
+                restCosts[start] = leastCost;
             }
-            leastCost = limit;
             return true;
         }
 
-        void solveNear(int m) {
-            nearing = true;
+        /** All BEST ones, when what they cost is measured. */
+        void list() {
+            aim = LISTING;
+            limit = leastCost;
+            ways = 0;
+            inEach = -1L;
+            inSome = 0;
+            place(0, 0, 0, 0);
+        }
+
+        /** NEAR by m, when what the BEST costs is measured. */
+        void approach(int m) {
+            aim = NEARING;
             limit = leastCost + m;
-            heaps = 0;
-            from = 0;
             place(0, 0, 0, 0);
         }
 
@@ -1892,7 +1908,7 @@ public final class SlipHeaps {
         }
 
         private int oddities(int i, int mask, int placed) {
-            return nearing ? Integer.bitCount((mask ^ part.handRows[i]) & placed) : 0;
+            return aim == NEARING ? Integer.bitCount((mask ^ part.handRows[i]) & placed) : 0;
         }
 
         /** What the place costs if it is with none of those before it. */
@@ -1915,22 +1931,23 @@ public final class SlipHeaps {
         }
 
         private void record(int cost, int odd, long pairs) {
-            if (nearing) {
+            if (aim == MEASURING) {
+                leastCost = cost;
+                limit = cost - 1;
+                return;
+            }
+            if (aim == NEARING) {
                 fewest = odd;
                 choose();
                 return;
             }
-            if (ways == 0 || cost < limit) {
-                limit = cost;
-                ways = 0;
-                inEach = pairs;
-                inSome = pairs;
+            if (ways == 0) {
                 choose();
             }
             inEach &= pairs;
             inSome |= pairs;
             if (ways < LISTED_MOST) {
-                list[ways] = pairs;
+                listed[ways] = pairs;
             }
             ways++;
         }
@@ -1987,9 +2004,9 @@ public final class SlipHeaps {
             long each = -1L;
             long some = 0;
             for (int i = 0; i < ways && i < LISTED_MOST; i++) {
-                if ((list[i] & bit) == settled) {
-                    each &= list[i];
-                    some |= list[i];
+                if ((listed[i] & bit) == settled) {
+                    each &= listed[i];
+                    some |= listed[i];
                 }
             }
             return Long.bitCount(some & ~each);
