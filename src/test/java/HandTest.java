@@ -153,6 +153,7 @@ public final class HandTest {
         better(x, 2, 2, 0, 3);
         Due.is("grown", () -> x.grow(1), 1);
         Due.is("changed places", () -> x.of(3, 5) * 10 + x.of(2, 5), 10);
+        heldBack();
         SlipHeaps y = Due.alike(3);
         y.join(0, 1);
         y.weigh(0, 1, 2);
@@ -162,6 +163,33 @@ public final class HandTest {
         y.loose(0, 1);
         y.law(0, 2);
         better(y, 2, 0, 1, 2);
+    }
+
+    /** Changing places is best, unless one of both has to stay. */
+    private static void heldBack() {
+        SlipHeaps x = Due.alike(4);
+        x.join(0, 1);
+        x.join(2, 3);
+        x.law(0, 2);
+        x.weigh(0, 2, 5);
+        better(x, 0, 2, 0, 3);
+        x.fix(0, 1, true);
+        better(x, Due.VOID, Due.VOID, Due.VOID, Due.VOID);
+        x.loose(0, 1);
+        x.fix(2, 3, true);
+        better(x, Due.VOID, Due.VOID, Due.VOID, Due.VOID);
+        x.loose(2, 3);
+        x.fix(0, 3, true);
+        Due.is("not lawful", () -> x.better(1), Due.VOID);
+        x.loose(0, 3);
+        x.weigh(1, 3, SlipHeaps.VOID);
+        better(x, Due.VOID, Due.VOID, Due.VOID, Due.VOID);
+        x.weigh(1, 3, -1);
+        better(x, 1, 2, 0, 3);
+        SlipHeaps y = Due.alike(2);
+        y.weigh(0, 1, 5);
+        y.fix(0, 1, false);
+        better(y, Due.VOID, Due.VOID, Due.VOID, Due.VOID);
     }
 
     private static void grow() {
@@ -175,6 +203,10 @@ public final class HandTest {
         Due.is("the dearest first", () -> heaps(x), "0 1 2 2 2");
         Due.is("to the end", () -> x.grow(100), 2);
         Due.is("all", () -> heaps(x), "0 0 0 0 0");
+        x.weigh(1, 2, -100);
+        x.weigh(0, 1, 200);
+        Due.is("better alone", () -> x.grow(100), 1);
+        Due.is("2 is alone", () -> heaps(x), "0 0 2 0 0");
         x.weigh(0, 4, SlipHeaps.VOID);
         Due.is("not lawful", () -> x.grow(0), -1);
         Due.is("not lawful, no better", () -> x.better(0), Due.VOID);

@@ -206,6 +206,16 @@ public final class PartsTest {
         Due.is("best ones", () -> y.many(0), 3);
         Due.is("0 1 is free", () -> y.always(0, 1), 0);
         Due.is("but 0 2 is asked", () -> y.asked(3), 2);
+        y.fix(0, 1, false);
+        // 1 alone, 0 alone: 0 2, 0 3, 1 2 and 1 3 go together, and none is free when one is settled.
+        Due.is("two left", () -> y.many(0), 2);
+        Due.is("0 2 is the first", () -> y.asked(0), 2);
+        y.loose(0, 1);
+        y.fix(0, 2, true);
+        // All in one, 1 alone: 0 1, 1 2 and 1 3.
+        Due.is("0 1 is the first", () -> y.asked(0), 1);
+        y.fix(0, 1, false);
+        Due.is("one left", () -> y.asked(0), -1);
         Due.is("no ring, nothing free", () -> Due.alike(1).asked(0), -1);
     }
 
@@ -260,6 +270,8 @@ public final class PartsTest {
         Due.is("all three stand", () -> x.stands(7), 3);
         Due.is("no book", () -> x.without(8), Due.ILLEGAL);
         Due.is("no book again", () -> x.stands(-1), Due.ILLEGAL);
+        Due.is("no book to stand", () -> x.stands(8), Due.ILLEGAL);
+        Due.is("no book left out", () -> x.without(-1), Due.ILLEGAL);
         x.fix(1, 4, true);
         x.fix(1, 5, true);
         Due.is("no best", x::all, -1);

@@ -100,6 +100,15 @@ public final class RulesTest {
         fault("for 1\t;", 1, 5);
         fault("for 1\u00e9;", 1, 5);
         fault("for 1;;", 1, 6);
+        fault("forz 1;", 1, 0);
+        fault("afor 1;", 1, 0);
+        fault("for` 1;", 1, 3);
+        fault("for{ 1;", 1, 3);
+        fault("for 1:2;", 1, 5);
+        fault("for .5;", 1, 4);
+        fault("for like9;", 1, 8);
+        fault("for 0like;", 1, 5);
+        fault("for 9 9;", 1, 6);
         fault("for 10000;", 2, 4);
         fault("for 00010000 +;", 2, 4);
         fault("for 99999999999999999999999999999;", 2, 4);
@@ -204,6 +213,8 @@ public final class RulesTest {
         condition("not 1=2 and 1=2", false);
         condition("not [1=2 and 1=2]", true);
         condition("not not 1=1", true);
+        condition("not 1=1", false);
+        condition("not not not 1=1", false);
         condition("not 1=1 or 1=1", true);
         condition("1=2 or 1=2 or 1=1", true);
         condition("1=1 and 1=1 and 1=2", false);
@@ -240,6 +251,9 @@ public final class RulesTest {
         Due.is("one father", () -> x.weight(1, 3), 100);
         x.entry(2, 2, 2, 2, -1);
         Due.is("both unknown", () -> x.weight(2, 4), 0);
+        Due.rules(x, "for 1000*trade+years;");
+        Due.is("another trade", () -> x.weight(0, 3), 103);
+        Due.is("one trade", () -> x.weight(3, 4), 1000);
     }
 
     private static void pairsThatAreNone() {
