@@ -1087,9 +1087,13 @@ public final class SlipHeaps {
             return true;
         }
 
+        private boolean readNot(int depth) {
+            return open(WORD_NOT, depth) && readTest(depth + 1) && emit(OP_NOT);
+        }
+
         private boolean readTest(int depth) {
             if (sign == WORD_NOT) {
-                return open(WORD_NOT, depth) && readTest(depth + 1) && emit(OP_NOT);
+                return readNot(depth);
             }
             if (sign == '[') {
                 return open('[', depth) && readAny(depth + 1) && pass(']');
@@ -1874,41 +1878,33 @@ public final class SlipHeaps {
                 record(cost, odd, pairs);
                 return;
             }
-            int placed = (1 << i) - (1 << from);
-            int bound = part.bound[i] & placed;
             int alone = cost + drawn(i);
             int open = heaps;
             for (int h = 0; h < open; h++) {
-                int mask = heapMasks[h];
-                boolean fits = (part.parted[i] & mask) == 0 && (bound & ~mask) == 0;
-                if (fits && Integer.bitCount(mask) < part.room) {
-                    int then = alone - pullTo(i, mask);
-                    int oddThen = odd + oddities(i, mask, placed);
-                    if (isWanted(i, then, oddThen)) {
-                        heapMasks[h] = mask | 1 << i;
-                        now[i] = heapLeasts[h];
-                        place(i + 1, then, oddThen, pairs | (long) mask << i * (i - 1) / 2);
-                        heapMasks[h] = mask;
-                    }
-                }
+                enter(i, h, alone, odd, pairs);
             }
-            int oddAlone = odd + oddities(i, 0, placed);
-            if (bound == 0 && isWanted(i, alone, oddAlone)) {
-                heapMasks[open] = 1 << i;
-                heapLeasts[open] = i;
-                now[i] = i;
-                heaps = open + 1;
-                place(i + 1, alone, oddAlone, pairs);
-                heaps = open;
-            }
+            heapMasks[open] = 0;
+            heapLeasts[open] = i;
+            heaps = open + 1;
+            enter(i, open, alone, odd, pairs);
+            heaps = open;
         }
 
-        private boolean isWanted(int i, int cost, int odd) {
-            return cost + restCosts[i + 1] <= limit && odd < fewest;
-        }
-
-        private int oddities(int i, int mask, int placed) {
-            return aim == NEARING ? Integer.bitCount((mask ^ part.handRows[i]) & placed) : 0;
+        private void enter(int i, int h, int alone, int odd, long pairs) {
+            int mask = heapMasks[h];
+            int placed = (1 << i) - (1 << from);
+            boolean clash = (part.parted[i] & mask) != 0 || (part.bound[i] & placed & ~mask) != 0;
+            if (clash || Integer.bitCount(mask) >= part.room) {
+                return;
+            }
+            int cost = alone - pullTo(i, mask);
+            int oddThen = aim == NEARING ? odd + Integer.bitCount((mask ^ part.handRows[i]) & placed) : odd;
+            if (cost + restCosts[i + 1] <= limit && oddThen < fewest) {
+                heapMasks[h] = mask | 1 << i;
+                now[i] = heapLeasts[h];
+                place(i + 1, cost, oddThen, pairs | (long) mask << i * (i - 1) / 2);
+                heapMasks[h] = mask;
+            }
         }
 
         /** What the place costs if it is with none of those before it. */
