@@ -9,8 +9,19 @@ final class Due {
     }
 
     private static int wrong = 0;
+    private static int answers = 0;
+    private static String heading = "";
 
     private Due() {
+    }
+
+    /** What is wrong from here on is told under this heading. */
+    static void under(String words) {
+        heading = words.isEmpty() ? "" : words + ": ";
+    }
+
+    static int answers() {
+        return answers;
     }
 
     static String answer(Call call) {
@@ -24,9 +35,10 @@ final class Due {
 
     static void is(String what, Call call, Object due) {
         String got = answer(call);
+        answers++;
         if (!got.equals(String.valueOf(due))) {
             wrong++;
-            System.out.println(what + " answered " + got + ", due is " + due);
+            System.out.println(heading + what + " answered " + got + ", due is " + due);
         }
     }
 
