@@ -39,6 +39,16 @@ final class BestCases {
         Due.is("0 1 is free, but leaves four if apart", () -> x.always(0, 1), 0);
         Due.is("2 3 is not free", () -> x.always(2, 3), 1);
         Due.is("0 2 leaves three if together", () -> x.asked(0), 2);
+        SlipHeaps two = weighed(4, new int[] {0, 1, 1}, new int[] {0, 3, 1}, new int[] {1, 3, -2}, new int[] {2, 3, 1});
+        Due.is("0 1, 2 3 or 0 2 3, 1: each of three free ones leaves none", () -> two.many(0) * 100 + two.asked(0), 201);
+        SlipHeaps round = weighed(4, new int[] {0, 1, 1}, new int[] {0, 2, 1}, new int[] {1, 3, -1}, new int[] {2, 3, 1});
+        Due.is("all, 0 2 3, 0 1 2, or 0 1 and 2 3: 0 3 and 1 2 halve them, 0 1 does not", () -> round.many(0) * 100 + round.asked(0), 403);
+        SlipHeaps ring = weighed(3, new int[] {0, 1, -1}, new int[] {0, 2, 1}, new int[] {1, 2, 1});
+        Due.is("all, 0 2 or 1 2: two are left in the worse case of each", () -> ring.many(0) * 100 + ring.asked(0), 301);
+        SlipHeaps tail = weighed(4, new int[] {0, 1, 1}, new int[] {0, 2, -1}, new int[] {1, 2, 1}, new int[] {2, 3, 1});
+        Due.is("all, 0 1 and 2 3, or 1 2 3", () -> tail.many(0) * 100 + tail.asked(0), 302);
+        SlipHeaps fan = weighed(4, new int[] {0, 1, -2}, new int[] {0, 3, 2}, new int[] {1, 3, 2}, new int[] {2, 3, 2});
+        Due.is("all, 0 2 3 or 1 2 3", () -> fan.many(0) * 100 + fan.asked(0), 302);
 
         Cases.says(Cases.TERMS, "; of these the first (by the lesser, then by the other).");
         SlipHeaps y = weighed(4, new int[] {1, 2, 5}, new int[] {2, 3, 5}, new int[] {1, 3, -5});
@@ -142,6 +152,10 @@ final class BestCases {
         Due.is("one best one", () -> PartCases.chain(10).asked(0), -1);
         Due.is("one entry", () -> Due.alike(1).asked(0), -1);
         Due.is("torn", () -> PartCases.torn().asked(0), -1);
+        x.loose(27, 28);
+        x.fix(3, 4, true);
+        x.weigh(3, 4, SlipHeaps.VOID);
+        Due.is("torn, behind one that has free ones", () -> x.asked(28) * 10 + x.asked(3), (27 * 32 + 28) * 10 - 1);
 
         Cases.says(35, "; -2: the PART has more than 10, or more than 200 BEST ones.");
         Due.is("of 11", () -> PartCases.chain(11).asked(0), -2);

@@ -308,6 +308,12 @@ final class HandCases {
         better(x, 0, 0, 1, 0);
         x.weigh(1, 2, -1);
         noneBetter(x);
+        SlipHeaps then = heaped(0, 1, 1);
+        then.weigh(0, 1, 5);
+        then.weigh(0, 2, SlipHeaps.VOID);
+        better(then, 0, 0, 1, 0);
+        then.alone(2);
+        better(then, 0, 0, 0, 1);
 
         Cases.says(Cases.TERMS, "; the BEST CHANGE is the one behind which COST is least");
         SlipHeaps y = Due.alike(6);
@@ -388,6 +394,15 @@ final class HandCases {
         y.weigh(1, 4, 0);
         y.fix(1, 4, false);
         Due.is("changes that part others for sure", () -> y.better(0), Due.VOID);
+        SlipHeaps next = heaped(0, 1, 0, 1);
+        next.law(0, 2);
+        next.weigh(1, 2, 5);
+        better(next, 0, 2, 0, 1);
+        SlipHeaps never = heaped(0, 0, 2, 2);
+        never.law(0, 2);
+        never.weigh(0, 2, 5);
+        never.weigh(0, 3, SlipHeaps.VOID);
+        better(never, 0, 2, 0, 3);
         SlipHeaps z = heaped(0, 0, 2);
         z.law(0, 2);
         z.weigh(0, 1, -3);
@@ -637,6 +652,15 @@ final class HandCases {
         }
     }
 
+    /** One BEST CHANGE is made, and what is in HAND then. */
+    private static void grown(SlipHeaps x, String due, int[]... told) {
+        for (int[] t : told) {
+            x.weigh(t[0], t[1], t[2]);
+        }
+        Due.is("one change to " + due, () -> x.grow(1), 1);
+        Due.is("hand then", () -> heaps(x), due);
+    }
+
     private static void grow() {
         Cases.says(22, "So many BEST CHANGES are made at most");
         SlipHeaps x = Due.alike(4);
@@ -647,6 +671,17 @@ final class HandCases {
         Due.is("the best one", () -> heaps(x), "0 1 2 2");
         Due.is("one more", () -> x.grow(1), 1);
         Due.is("the best one then", () -> heaps(x), "0 1 1 1");
+        grown(heaped(0, 0), "0 1", new int[] {0, 1, -5});
+        grown(heaped(0, 0, 2), "0 1 0", new int[] {0, 1, -5}, new int[] {0, 2, 5});
+        grown(heaped(0, 1, 1, 0), "0 0 0 0", new int[] {0, 3, 3}, new int[] {1, 2, 3}, new int[] {2, 3, 2});
+        SlipHeaps full = heaped(0, 0, 2, 2);
+        full.law(0, 2);
+        grown(full, "0 1 0 1", new int[] {0, 2, 5});
+        SlipHeaps held = Due.alike(3);
+        held.weigh(0, 1, 5);
+        held.fix(0, 1, false);
+        Due.is("none that is not lawful", () -> held.grow(100), 0);
+        Due.is("hand stays", () -> heaps(held), "0 1 2");
         Cases.says(22, "(0 to 100)");
         Due.is("none", () -> x.grow(0), 0);
         Due.is("is made", () -> heaps(x), "0 1 1 1");

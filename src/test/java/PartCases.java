@@ -213,6 +213,9 @@ final class PartCases {
         y.weigh(0, 2, SlipHeaps.VOID);
         Due.is("never", () -> y.always(0, 2), -1);
         Due.is("the lighter one", () -> y.always(1, 2), -1);
+        SlipHeaps apart = chain(2);
+        apart.fix(0, 1, false);
+        Due.is("in the only one", () -> apart.always(0, 1), -1);
     }
 
     private static void edge() {
@@ -284,6 +287,10 @@ final class PartCases {
         Cases.says(27, "; -1: there is none");
         Due.is("torn", () -> torn().best(1), -1);
         Due.is("beside it", () -> torn().best(2), 0);
+        SlipHeaps both = weighed(5, new int[] {0, 1, 5}, new int[] {1, 2, 5}, new int[] {0, 2, -5}, new int[] {3, 4, SlipHeaps.VOID});
+        both.fix(3, 4, true);
+        Due.is("behind one that has three", () -> both.best(0) * 10 + both.many(0), 53);
+        Due.is("torn too", () -> both.best(3), -1);
         Cases.says(27, "; -2: the PART has more than 10.");
         Due.is("of 10", () -> chain(10).best(0), 0);
         Due.is("of 11", () -> chain(11).best(0), -2);
@@ -303,6 +310,7 @@ final class PartCases {
         Due.is("all of nine others", () -> hub(9).many(0), 21147);
         Cases.says(28, "(0: none)");
         Due.is("torn", () -> torn().many(0), 0);
+        Due.is("behind one that has three", () -> both.many(1) * 10 + both.many(3), 30);
         Cases.says(28, "; -2 likewise.");
         Due.is("of 10", () -> chain(10).many(0), 1);
         Due.is("of 11", () -> chain(11).many(10), -2);
@@ -315,6 +323,7 @@ final class PartCases {
         Due.is("hand is another", () -> x.first(1), 1);
         Cases.says(29, "; -1, -2 likewise.");
         Due.is("torn", () -> torn().first(0), -1);
+        Due.is("behind one that has three", () -> both.first(1) * 10 + both.first(3), -1);
         Due.is("beside it", () -> torn().first(2), 2);
         Due.is("of 10", () -> chain(10).first(9), 0);
         Due.is("of 11", () -> chain(11).first(9), -2);

@@ -169,6 +169,29 @@ public final class RandomRunsTest {
         }
     }
 
+    /** What has a limit comes near it, or to it. */
+    private void toTheBrim() {
+        for (int i = 0; i < 70; i++) {
+            weighOne();
+        }
+        for (int i = 0; i < 26; i++) {
+            int a = anEntry();
+            call("fix", a, dice.chance(70) ? a + 1 + dice.next(4) : anEntry(), dice.chance(size > 12 ? 40 : 10));
+        }
+        for (int i = dice.next(8); i > 0; i--) {
+            call("put", anEntry(), anEntry());
+            call("mark");
+        }
+        for (int k = 0; k < 3; k++) {
+            String a = call("ring", k, 0);
+            String b = call("ring", k, 1);
+            String c = call("ring", k, 2);
+            for (int i = 0; i < 17 && !a.isEmpty() && !a.startsWith("-"); i++) {
+                call("told", Integer.parseInt(b), Integer.parseInt(a), Integer.parseInt(c), 1 + dice.next(2));
+            }
+        }
+    }
+
     private boolean passes(long seed) {
         if (dice.chance(40)) {
             tellText();
@@ -179,7 +202,11 @@ public final class RandomRunsTest {
         for (int i = dice.next(70); i > 0; i--) {
             weighOne();
         }
-        int length = size > 11 ? 120 : 300;
+        boolean brim = size > 7 && dice.chance(25);
+        if (brim) {
+            toTheBrim();
+        }
+        int length = size > 11 ? 120 + (brim ? 200 : 0) : 300 + (brim ? 150 : 0);
         while (calls < length && !failed) {
             oneCall();
         }

@@ -164,6 +164,7 @@ final class RingCases {
         x.told(0, 1, 3, 20);
         Due.is(what, () -> change.on(x), due);
         Due.is("told rings behind " + what, () -> x.count(6), stand ? 2 : 0);
+        Due.is("no more than all behind " + what, () -> x.told(0, 1, 3, 31), -2);
         Due.is("rest behind " + what, () -> x.told(0, 1, 3, 11), stand ? -2 : 11);
         Due.is("bound behind " + what, () -> x.told(0, 1, 3, 10), stand ? 80 : 21);
     }
@@ -188,6 +189,10 @@ final class RingCases {
         Cases.says(Cases.TERMS, ", by hand");
         behind("weigh", false, 1, x -> x.weigh(2, 3, 5));
         behind("weigh in place", false, 0, x -> x.weigh(0, 1, 99));
+        SlipHeaps once = three(5, 6, -7);
+        Due.is("one that takes all", () -> once.told(0, 1, 2, 5), 5);
+        once.weigh(0, 2, -7);
+        Due.is("all is there again", () -> once.told(0, 1, 2, 5), 5);
         behind("never", false, 1, x -> x.weigh(2, 3, SlipHeaps.VOID));
         behind("weigh beyond", true, Due.ILLEGAL, x -> x.weigh(2, 3, 10001));
         behind("weigh of none", true, Due.NO_SUCH, x -> x.weigh(2, 4, 5));

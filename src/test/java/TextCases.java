@@ -31,14 +31,14 @@ final class TextCases {
         Due.is("clauses of '" + text + "'", () -> x.count(1), clauses);
     }
 
-    /** Entry 0 of book 1, trade 2, year 110, father 3; 1 of book 1, trade 2, year 103, father 3; 2 of others; 3 unknown. */
+    /** 0 and 1 have book, trade and father alike, but no other number twice; 2 is of others; 3 has 0's name, no father. */
     private static SlipHeaps four() {
         SlipHeaps x = new SlipHeaps();
-        x.entry(1, 0, 2, 110, 3);
-        x.entry(1, 1, 2, 103, 3);
-        x.entry(2, 2, 3, 199, 4);
-        x.entry(3, 0, 4, 0, -1);
-        x.like(0, 1, 60);
+        x.entry(1, 8, 2, 110, 3);
+        x.entry(1, 9, 2, 103, 3);
+        x.entry(4, 10, 5, 199, 6);
+        x.entry(7, 8, 0, 0, -1);
+        x.like(8, 9, 60);
         return x;
     }
 
@@ -186,10 +186,17 @@ final class TextCases {
         truth("1=2 and 1=1 or 1=1", true);
         flaw("never if 1=1 and;", 1, 16);
         flaw("never if 1=1 and or 1=1;", 1, 17);
+        truth("1<2 and 1=1", true);
+        truth("2>1 and 1=1", true);
+        truth("1<2 and 2>1", true);
 
         Cases.says(Cases.TERMS, "B: \"not\" B, \"[\" C \"]\", or E R E");
         truth("not 1=2", true);
         truth("not 1=1", false);
+        truth("not 1<2", false);
+        truth("not 2>1", false);
+        truth("not 2<1", true);
+        truth("not 1>2", true);
         truth("not not 1=1", true);
         truth("not 1=2 and 1=2", false);
         truth("not 1=1 or 1=1", true);
@@ -252,6 +259,9 @@ final class TextCases {
         flaw("for li ke;", 1, 4);
         flaw("for` 1;", 1, 3);
         flaw("for{ 1;", 1, 3);
+        flaw("forz 1;", 1, 0);
+        flaw("fora 1;", 1, 0);
+        flaw("zfor 1;", 1, 0);
         sound("for1if2=2or3=3and4=4;never if not[1=1];", 2);
         sound("for like*years/least(1,trade);", 1);
 
@@ -291,6 +301,13 @@ final class TextCases {
         Due.feed(x, "for 1;for 2;");
         Due.is("the text is n bytes", () -> x.rules(5), -9);
         Due.is("though more are on the tape", x::fault, 5);
+        Due.feed(x, "for 1;for 2;");
+        Due.is("a word that n cuts", () -> x.rules(8), -9);
+        Due.is("is another one", x::fault, 6);
+        Due.feed(x, "for 10000;");
+        Due.is("a number that n cuts", () -> x.rules(8), -9);
+        Due.is("is less", x::fault, 8);
+        flaw(";".repeat(400), 1, 0);
         flaw("for 1;".repeat(15) + "for " + "1+".repeat(152) + "11", 1, 400);
 
         Cases.says(Cases.TERMS, "; 2 an N above 9,999");
@@ -425,6 +442,12 @@ final class TextCases {
         Due.is("sixteen", () -> Due.rules(x, SIXTEEN), 16);
         Due.is("tell all", () -> x.weight(2, 3), 16);
         Due.is("one in place of them", () -> Due.rules(x, "for 2;") * 100 + x.weight(2, 3), 102);
+        SlipHeaps often = four();
+        for (int i = 0; i < 20; i++) {
+            String longest = "for " + "1+".repeat(196) + i % 10 + " ;";
+            int due = 196 + i % 10;
+            Due.is("400 bytes again", () -> Due.rules(often, longest) * 1000 + often.weight(2, 3), 1000 + due);
+        }
 
         Cases.says(6, "; or the FAULT less 10 (the RULES stay).");
         Due.is("1", () -> Due.rules(x, "for 5;?"), -9);
