@@ -249,6 +249,10 @@ final class BestCases {
         Due.is("of no entries", () -> new SlipHeaps().without(0), 0);
         Due.is("of one book", () -> Due.alike(5).without(0), 0);
         Due.is("asked for all again", x::all, 1);
+        SlipHeaps thirty = full();
+        thirty.law(1, 1);
+        Due.is("thirty of one book", () -> thirty.without(0), 0);
+        Due.is("thirty of another", () -> thirty.without(7), 0);
         Cases.says(38, "; -1, -2 likewise.");
         SlipHeaps t = row(0, 1, 2);
         t.fix(0, 1, true);
@@ -281,6 +285,8 @@ final class BestCases {
         Due.is("without 3: 0 1 2 and 7's", () -> x.stands(3), 2);
         Due.is("without 2: 0 1 3 and 4 are 0 1 and 3 4 then", () -> x.stands(2), 0);
         Due.is("without 7", () -> x.stands(7), 1);
+        Due.is("thirty of one book", () -> full().stands(0), 0);
+        Due.is("thirty of another", () -> full().stands(7), 30);
         Cases.says(39, "; -1, -2: all() or without() has that");
         Due.is("all torn, without 1 not", () -> t.stands(1), -1);
         Due.is("both torn", () -> t.stands(2), -1);

@@ -268,6 +268,11 @@ final class PartCases {
         x.weigh(0, 2, SlipHeaps.VOID);
         Due.is("never has no amount: 600 above 2 * 21 * 14", () -> x.holds(0, 1, 21), 1);
         Due.is("600 not above 2 * 22 * 14", () -> x.holds(0, 1, 22), 0);
+        Due.is("of ten: 100 above 2 * 5 * 9", () -> chain(10).holds(0, 1, 5), 1);
+        Due.is("100 not above 2 * 6 * 9", () -> chain(10).holds(0, 1, 6), 0);
+        SlipHeaps behind = weighed(6, new int[] {0, 1, 10}, new int[] {2, 3, 10}, new int[] {3, 4, 10}, new int[] {4, 5, 10});
+        Due.is("of four", () -> behind.holds(2, 3, 16), 1);
+        Due.is("of two behind it", () -> behind.holds(0, 1, 49), 1);
 
         Cases.says(Cases.TERMS, "; if the EDGE is that far below 0: apart for sure (-1); else 0.");
         x.weigh(0, 2, -6);

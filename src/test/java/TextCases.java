@@ -304,6 +304,9 @@ final class TextCases {
         Due.feed(x, "for 1;for 2;");
         Due.is("a word that n cuts", () -> x.rules(8), -9);
         Due.is("is another one", x::fault, 6);
+        Due.feed(x, "for 1 if 1=1;");
+        Due.is("a word of which n leaves one letter", () -> x.rules(7), -9);
+        Due.is("is another one too", x::fault, 6);
         Due.feed(x, "for 10000;");
         Due.is("a number that n cuts", () -> x.rules(8), -9);
         Due.is("is less", x::fault, 8);
