@@ -125,8 +125,8 @@ public final class SlipHeaps {
         if (what == 5) {
             return hand.heap[entry];
         }
-        parts.find(entries.everyone());
-        return what == 6 ? parts.number[entry] : Integer.bitCount(parts.membersWith(entry));
+        int members = membersOfPart(entry);
+        return what == 6 ? Integer.numberOfTrailingZeros(members) : Integer.bitCount(members);
     }
 
     public int like(int name, int other, int v) throws IllegalArgumentException {
@@ -348,7 +348,7 @@ public final class SlipHeaps {
 
     public long best(int entry) throws NoSuchElementException {
         needEntry(entry);
-        int state = solvePartOf(entry);
+        int state = solve(membersOfPart(entry));
         return state < 0 ? state : search.leastCost;
     }
 
@@ -504,12 +504,12 @@ public final class SlipHeaps {
         refuseUnless(a != b);
     }
 
-    /** 1: the search knows what the BEST of the PART costs; -1: there is none; -2: the PART is too big. */
-    private int solvePartOf(int entry) {
+    private int membersOfPart(int entry) {
         parts.find(entries.everyone());
-        return solve(parts.membersWith(entry));
+        return parts.membersWith(entry);
     }
 
+    /** 1: the search knows what the BEST of the PART costs; -1: there is none; -2: the PART is too big. */
     private int solve(int members) {
         if (Integer.bitCount(members) > PART_LIMIT) {
             return BIG;
@@ -520,7 +520,7 @@ public final class SlipHeaps {
 
     /** Likewise, and the search knows all BEST ones. */
     private int listPartOf(int entry) {
-        int state = solvePartOf(entry);
+        int state = solve(membersOfPart(entry));
         if (state > 0) {
             search.list();
         }
@@ -553,9 +553,8 @@ public final class SlipHeaps {
     }
 
     private long edgeOf(int a, int b) {
-        parts.find(entries.everyone());
-        int members = parts.membersWith(a);
-        if (Integer.bitCount(members) > PART_LIMIT || parts.number[a] != parts.number[b]) {
+        int members = membersOfPart(a);
+        if (Integer.bitCount(members) > PART_LIMIT || (members >>> b & 1) == 0) {
             return VOID;
         }
         part.load(members);
@@ -570,7 +569,7 @@ public final class SlipHeaps {
     }
 
     private int nearPartOf(int entry, int m) {
-        int state = solvePartOf(entry);
+        int state = solve(membersOfPart(entry));
         if (state > 0) {
             part.lookAt(hand.heap);
             search.approach(m);
@@ -839,20 +838,22 @@ public final class SlipHeaps {
 
         private void scan(int n) {
             int count = 0;
-            int next = 0;
-            while (next < n) {
-                int first = tape[next];
-                int end = isLetter(first) ? endOfWord(next, n) : isDigit(first) ? endOfNumber(next, n) : next + 1;
-                if (first != ' ') {
-                    places[count] = next;
-                    signs[count] = isLetter(first) ? wordBetween(next, end) : isDigit(first) ? SIGN_NUMBER : first;
-                    values[count] = isDigit(first) ? numberBetween(next, end) : 0;
-                    count++;
+            for (int i = 0; i < n; i++) {
+                int first = tape[i];
+                if (first == ' ' || i > 0 && goesOn(tape[i - 1], first)) {
+                    continue;
                 }
-                next = end;
+                places[count] = i;
+                signs[count] = isLetter(first) ? wordAt(i, n) : isDigit(first) ? SIGN_NUMBER : first;
+                values[count] = isDigit(first) ? numberAt(i, n) : 0;
+                count++;
             }
             places[count] = n;
             signs[count] = SIGN_END;
+        }
+
+        private static boolean goesOn(int before, int next) {
+            return isLetter(before) && isLetter(next) || isDigit(before) && isDigit(next);
         }
 
         private static boolean isLetter(int sign) {
@@ -863,32 +864,20 @@ public final class SlipHeaps {
             return sign >= '0' && sign <= '9';
         }
 
-        private int endOfWord(int start, int n) {
-            int end = start + 1;
-            while (end < n && isLetter(tape[end])) {
-                end++;
-            }
-            return end;
-        }
-
-        private int endOfNumber(int start, int n) {
-            int end = start + 1;
-            while (end < n && isDigit(tape[end])) {
-                end++;
-            }
-            return end;
-        }
-
         /** Above the most that may stand it is only known to be too large. */
-        private int numberBetween(int start, int end) {
+        private int numberAt(int start, int n) {
             int value = 0;
-            for (int i = start; i < end && value <= NUMBER_MOST; i++) {
+            for (int i = start; i < n && isDigit(tape[i]) && value <= NUMBER_MOST; i++) {
                 value = value * 10 + tape[i] - '0';
             }
             return value;
         }
 
-        private int wordBetween(int start, int end) {
+        private int wordAt(int start, int n) {
+            int end = start;
+            while (end < n && isLetter(tape[end])) {
+                end++;
+            }
             for (int word = WORD_LIKE; word >= WORD_NOT; word--) {
                 if (isSpelt(spelling(word), start, end)) {
                     return word;
@@ -1756,16 +1745,14 @@ public final class SlipHeaps {
             Arrays.fill(parted, 0);
             Arrays.fill(bound, 0);
             for (int i = 1; i < size; i++) {
+                int a = entryAt[i];
                 for (int j = 0; j < i; j++) {
-                    loadPair(i, j, entryAt[i], entryAt[j]);
+                    int b = entryAt[j];
+                    pulls[i * PART_LIMIT + j] = pairs.pull(a, b);
+                    setBit(parted, i, j, laws.partsThem(a, b));
+                    setBit(bound, i, j, (laws.togetherRows[a] >>> b & 1) != 0);
                 }
             }
-        }
-
-        private void loadPair(int i, int j, int a, int b) {
-            pulls[i * PART_LIMIT + j] = pairs.pull(a, b);
-            setBit(parted, i, j, laws.partsThem(a, b));
-            setBit(bound, i, j, (laws.togetherRows[a] >>> b & 1) != 0);
         }
 
         /** Only for a greater and a lesser place. */
@@ -1932,13 +1919,12 @@ public final class SlipHeaps {
                 limit = cost - 1;
                 return;
             }
+            if (aim == NEARING || ways == 0) {
+                System.arraycopy(now, 0, chosen, 0, PART_LIMIT);
+            }
             if (aim == NEARING) {
                 fewest = odd;
-                choose();
                 return;
-            }
-            if (ways == 0) {
-                choose();
             }
             inEach &= pairs;
             inSome |= pairs;
@@ -1946,10 +1932,6 @@ public final class SlipHeaps {
                 listed[ways] = pairs;
             }
             ways++;
-        }
-
-        private void choose() {
-            System.arraycopy(now, 0, chosen, 0, PART_LIMIT);
         }
 
         int heapOf(int entry) {
