@@ -304,7 +304,9 @@ final class Source {
         }
         for (String name : calls.keySet()) {
             List<String> path = deepest(groups.get(name), groups);
-            flawUnless(path.size() <= 8, "11", String.join(" > ", path));
+            if (path.size() > 8) {
+                flaws.add("11 " + String.join(" > ", path));
+            }
         }
     }
 
